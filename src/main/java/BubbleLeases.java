@@ -49,6 +49,7 @@ public final class BubbleLeases {
     private final Past past = new Past();
     private final Past[] images = {new Past(), new Past(), new Past()};
     private final int[] tally = new int[VIEWS_MOST * (NOBODY + 1)];
+    private final int[] worths = new int[TENANTS_MOST];
     private int imageCount;
     private int stepsRefused;
     private int drawSeed;
@@ -239,9 +240,10 @@ public final class BubbleLeases {
         int best = NONE;
         int most = NONE;
         for (int t = 0; t < TENANTS_MOST; t++) {
-            if (sky.has(t) && sky.worthOf(t) > most) {
+            int worth = sky.has(t) ? sky.worthOf(t) : NONE;
+            if (worth > most) {
                 best = t;
-                most = sky.worthOf(t);
+                most = worth;
             }
         }
         return what == 0 ? best : most;
@@ -303,10 +305,8 @@ public final class BubbleLeases {
         }
         int one = sky.row[Sky.SIZE + tenant];
         int two = sky.row[Sky.SIZE + other];
-        if (one == two) {
-            return half;
-        }
-        return (int) leastTerms(one * two, Math.abs(one - two), half);
+        // A flat wall is 0 by 1, though nothing can be divided by how much more the one is.
+        return one == two ? half : (int) leastTerms(one * two, Math.abs(one - two), half);
     }
 
     public int vacant(int what) throws IllegalArgumentException {
@@ -499,9 +499,10 @@ public final class BubbleLeases {
         int best = NONE;
         int fewest = NONE;
         for (int v = 0; v < corner.views; v++) {
-            if (book.line[v] == NONE && (best == NONE || worstLeft(v) < fewest)) {
+            int worst = worstLeft(v);
+            if (book.line[v] == NONE && (best == NONE || worst < fewest)) {
                 best = v;
-                fewest = worstLeft(v);
+                fewest = worst;
             }
         }
         return what == 0 ? best : fewest;
@@ -608,22 +609,27 @@ public final class BubbleLeases {
         if ((tenants >> tenant & 1) == 0) {
             return 0;
         }
-        // The bound is found bit by bit; 511 is above all the WORTH that there can be.
+        for (int t = 0; t < TENANTS_MOST; t++) {
+            worths[t] = (tenants >> t & 1) == 1 ? sky.worthOf(t) : 0;
+        }
+        return Math.min(sunBound(n), worths[tenant]);
+    }
+
+    /** The bound is found bit by bit; 511 is above all the WORTH that there can be. */
+    private int sunBound(int n) {
         int bound = 0;
         for (int step = 256; step > 0; step /= 2) {
-            if (sunGiven(tenants, bound + step) <= n) {
+            if (sunGiven(bound + step) <= n) {
                 bound += step;
             }
         }
-        return Math.min(bound, sky.worthOf(tenant));
+        return bound;
     }
 
-    private int sunGiven(int tenants, int bound) {
+    private int sunGiven(int bound) {
         int given = 0;
         for (int t = 0; t < TENANTS_MOST; t++) {
-            if ((tenants >> t & 1) == 1) {
-                given += Math.min(bound, sky.worthOf(t));
-            }
+            given += Math.min(bound, worths[t]);
         }
         return given;
     }
@@ -1015,9 +1021,7 @@ public final class BubbleLeases {
         }
 
         int life() {
-            int value = length == 0
-                    ? given[SOAP] * 2 - given[SIZE] / 2 + given[WALLS]
-                    : value();
+            int value = length == 0 ? given[SOAP] * 2 - given[SIZE] / 2 + given[WALLS] : value();
             return Math.max(1, Math.min(LIFE_MOST, value));
         }
 
