@@ -26,6 +26,8 @@ public final class BubbleLeases {
     private static final int WORTH_MOST = 60;
     private static final int BREATH_MOST = 400;
     private static final int AHEAD_MOST = 99;
+    /** Questions go on beyond the last BREATH that WORK may come to. */
+    private static final int ENDLESS = Integer.MAX_VALUE;
 
     /** In a BOOK: the VIEW is had by none. */
     private static final int NOBODY = 5;
@@ -112,7 +114,7 @@ public final class BubbleLeases {
         }
         past.note(sky.row);
         past.works++;
-        work.perform(sky);
+        work.performFrom(sky, 0, work.length, 0);
         stepsRefused = work.refused;
         return work.done;
     }
@@ -300,7 +302,7 @@ public final class BubbleLeases {
         needTenant(tenant);
         needTenant(other);
         need(half, 0, 1);
-        if (!sky.touch(tenant, other)) {
+        if ((sky.touching(tenant) >> other & 1) == 0) {
             return NONE;
         }
         int one = sky.row[Sky.SIZE + tenant];
@@ -379,7 +381,7 @@ public final class BubbleLeases {
         need(what, 0, 2);
         trial.copyFrom(sky);
         for (int i = 0; i < n; i++) {
-            trial.breathe();
+            trial.breathe(ENDLESS);
         }
         switch (what) {
             case 0: return trial.holders();
@@ -395,7 +397,7 @@ public final class BubbleLeases {
         }
         trial.copyFrom(sky);
         for (int breaths = 1; breaths <= AHEAD_MOST; breaths++) {
-            trial.breathe();
+            trial.breathe(ENDLESS);
             if (!trial.has(tenant)) {
                 return breaths;
             }
@@ -703,7 +705,7 @@ public final class BubbleLeases {
                 int wind = 1 + draw(WIND_MOST);
                 trial.drift(east ? wind : -wind);
             }
-            trial.breathe();
+            trial.breathe(ENDLESS);
         }
     }
 
@@ -811,7 +813,11 @@ public final class BubbleLeases {
         }
 
         boolean takeSign(int sign) {
-            return takeIf(sign) || failHere(CANNOT_STAND);
+            if (peek() != sign) {
+                return fail(CANNOT_STAND, at);
+            }
+            at++;
+            return true;
         }
 
         boolean atDigit() {
@@ -820,14 +826,15 @@ public final class BubbleLeases {
         }
 
         boolean takeNumber(int least, int most) {
-            if (!atDigit()) {
-                return failHere(CANNOT_STAND);
-            }
+            peek();
             numberAt = at;
             number = 0;
             while (at < end && bytes[at] >= '0' && bytes[at] <= '9') {
                 number = Math.min(NUMBER_CAP, number * 10 + bytes[at] - '0');
                 at++;
+            }
+            if (at == numberAt) {
+                return fail(CANNOT_STAND, at);
             }
             return number >= least && number <= most || fail(NO_SUCH_NUMBER, numberAt);
         }
@@ -1002,17 +1009,26 @@ public final class BubbleLeases {
         private static final int LEAST = 2005;
         private static final int MOST = 2006;
 
+        /** What counts without a LAW: soap * 2 - size / 2 + walls. */
+        private static final int[] PLAIN = {
+            FIRST_NAME + SOAP, 2, TIMES, FIRST_NAME + SIZE, 2, OVER, MINUS, FIRST_NAME + WALLS, PLUS};
+
         private final int[] codes = new int[LAW_MOST];
         private int length = 0;
         private final int[] draft = new int[LAW_MOST];
         private int drafted = 0;
         private final int[] stack = new int[LAW_MOST];
-        private int namesUsed = 1 << WALLS;
+        private int namesUsed = 0;
         final int[] given = new int[NAMES];
 
+        Law() {
+            forget();
+        }
+
         void forget() {
-            length = 0;
-            namesUsed = 1 << WALLS;
+            System.arraycopy(PLAIN, 0, draft, 0, PLAIN.length);
+            drafted = PLAIN.length;
+            takeDraft();
         }
 
         /** What a LAW does not speak of need not be counted for it. */
@@ -1021,11 +1037,6 @@ public final class BubbleLeases {
         }
 
         int life() {
-            int value = length == 0 ? given[SOAP] * 2 - given[SIZE] / 2 + given[WALLS] : value();
-            return Math.max(1, Math.min(LIFE_MOST, value));
-        }
-
-        private int value() {
             int top = 0;
             for (int i = 0; i < length; i++) {
                 int code = codes[i];
@@ -1037,7 +1048,7 @@ public final class BubbleLeases {
                     stack[top - 1] = combined(code, stack[top - 1], stack[top]);
                 }
             }
-            return stack[0];
+            return Math.max(1, Math.min(LIFE_MOST, stack[0]));
         }
 
         private static int combined(int code, int left, int right) {
@@ -1250,13 +1261,16 @@ public final class BubbleLeases {
         private static final int WIDTH = 4;
 
         private final int[] steps = new int[STEPS_MOST * WIDTH];
-        private int length = 0;
+        int length = 0;
         private int begun = 0;
         int done = 0;
         int refused = 0;
 
         boolean read(Tape tape, int tenants) {
             length = 0;
+            begun = 0;
+            done = 0;
+            refused = 0;
             if (!readSteps(tape, tenants, 0)) {
                 return false;
             }
@@ -1351,14 +1365,8 @@ public final class BubbleLeases {
             return tape.wordIs("again") ? AGAIN : NONE;
         }
 
-        void perform(Sky sky) {
-            begun = 0;
-            done = 0;
-            refused = 0;
-            performFrom(sky, 0, length, 0);
-        }
-
-        private void performFrom(Sky sky, int from, int to, int open) {
+        /** Does the STEPS from one on, ahead of another; of the text that was read last, and once only. */
+        void performFrom(Sky sky, int from, int to, int open) {
             for (int i = from; i < to && begun < BEGUN_MOST; i++) {
                 begun++;
                 if (steps[i * WIDTH] == AGAIN) {
@@ -1385,7 +1393,7 @@ public final class BubbleLeases {
                 case RUN: return sky.runTo(first, second);
                 case SELL: return sky.sellFor(first, second, steps[at + 3]);
                 case KEEP: return sky.keepUp(first);
-                default: return sky.breatheIfEarly();
+                default: return sky.breathe(BREATH_MOST);
             }
         }
     }
@@ -1478,11 +1486,12 @@ public final class BubbleLeases {
 
         int owner(int view) {
             int owner = NONE;
-            int nearest = 0;
+            int nearest = X_MOST + 1;
             for (int t = 0; t < TENANTS_MOST; t++) {
-                if (sees(t, view) && (owner == NONE || farFrom(t, view) < nearest)) {
+                int far = Math.abs(row[PLACE + t] - corner.viewX[view]);
+                if (row[SIZE + t] > 0 && far <= row[SIZE + t] && far < nearest) {
                     owner = t;
-                    nearest = farFrom(t, view);
+                    nearest = far;
                 }
             }
             return owner;
@@ -1496,7 +1505,7 @@ public final class BubbleLeases {
         int viewsHad(int t) {
             int bits = 0;
             for (int v = 0; v < corner.views; v++) {
-                if (sees(t, v) && owner(v) == t) {
+                if (owner(v) == t) {
                     bits |= 1 << v;
                 }
             }
@@ -1504,10 +1513,9 @@ public final class BubbleLeases {
         }
 
         int worthOf(int t) {
-            int had = viewsHad(t);
             int sum = 0;
             for (int v = 0; v < corner.views; v++) {
-                sum += (had >> v & 1) * corner.worth[v];
+                sum += owner(v) == t ? corner.worth[v] : 0;
             }
             return sum;
         }
@@ -1525,14 +1533,10 @@ public final class BubbleLeases {
             return row[SIZE + one] + row[SIZE + two] - Math.abs(row[PLACE + one] - row[PLACE + two]);
         }
 
-        boolean touch(int one, int two) {
-            return one != two && has(one) && has(two) && overlapOf(one, two) >= 0;
-        }
-
         int touching(int tenant) {
             int bits = 0;
             for (int t = 0; t < TENANTS_MOST; t++) {
-                if (touch(tenant, t)) {
+                if (t != tenant && has(t) && has(tenant) && overlapOf(tenant, t) >= 0) {
                     bits |= 1 << t;
                 }
             }
@@ -1645,33 +1649,24 @@ public final class BubbleLeases {
             return true;
         }
 
-        boolean breatheIfEarly() {
-            if (row[BREATH] >= BREATH_MOST) {
+        /** REFUSED from the BREATH of end on. */
+        boolean breathe(int end) {
+            if (row[BREATH] >= end) {
                 return false;
             }
-            breathe();
-            return true;
-        }
-
-        void breathe() {
             for (int t = 0; t < TENANTS_MOST; t++) {
-                if (has(t)) {
-                    row[AGE + t]++;
-                }
+                row[AGE + t] += has(t) ? 1 : 0;
             }
-            burstAll(outlived());
-            row[BREATH]++;
-        }
-
-        /** All LIVES are counted here before any BUBBLE goes, since walls and worth hang on the others. */
-        private int outlived() {
-            int bits = 0;
+            // All LIVES are counted before any BUBBLE goes, since walls and worth hang on the others.
+            int outlived = 0;
             for (int t = 0; t < TENANTS_MOST; t++) {
                 if (has(t) && row[AGE + t] >= life(t)) {
-                    bits |= 1 << t;
+                    outlived |= 1 << t;
                 }
             }
-            return bits;
+            burstAll(outlived);
+            row[BREATH]++;
+            return true;
         }
 
         private void burstAll(int tenants) {
