@@ -36,19 +36,6 @@ public final class SkyTest {
         return x;
     }
 
-    private static BubbleLeases after(String corner, String work) {
-        BubbleLeases x = Bench.at(corner);
-        Bench.due("a clean work", Bench.work(x, work) >= 0 ? 1 : 0, 1);
-        return x;
-    }
-
-    private static void all(String name, int[] got, int... due) {
-        Bench.due(name + " has as many", got.length, due.length);
-        for (int i = 0; i < due.length; i++) {
-            Bench.due(name + " " + i, got[i], due[i]);
-        }
-    }
-
     private static void promise9() {
         BubbleLeases x = row();
         Bench.book(x, "0 0;3 5;");
@@ -56,22 +43,22 @@ public final class SkyTest {
         for (int what = 0; what < 12; what++) {
             got[what] = x.told(what);
         }
-        all("told", got, 4, 5, 20, 1, 14, 4, 1, 29, 3, 2, 3, 2);
+        Bench.answers("told", got, 4, 5, 20, 1, 14, 4, 1, 29, 3, 2, 3, 2);
         Bench.wrongArgument(x, "told(12)", () -> x.told(12));
         Bench.wrongArgument(x, "told(-1)", () -> x.told(-1));
     }
 
     private static void promise10() {
         // Of alike ones the least number has it; who is nearer has it, be his BUBBLE smaller.
-        BubbleLeases x = after("view 10 7;view 12 8;view 50 9;tenant 9 8;tenant 9 12;tenant 9 14;", "blow 2 2;blow 1 2;blow 0 9;");
+        BubbleLeases x = Bench.after("view 10 7;view 12 8;view 50 9;tenant 9 8;tenant 9 12;tenant 9 14;", "blow 2 2;blow 1 2;blow 0 9;");
         int[] dues = {10, 7, 0, 2, 12, 8, 1, 3, 50, 9, -1, 0};
         for (int v = 0; v < 3; v++) {
             for (int what = 0; what < 4; what++) {
                 Bench.due("view(" + v + ", " + what + ")", x.view(v, what), dues[4 * v + what]);
             }
         }
-        Bench.due("no farther than S", after("view 10 7;tenant 9 15;", "blow 0 5;").view(0, 2), 0);
-        Bench.due("farther than S", after("view 10 7;tenant 9 15;", "blow 0 4;").view(0, 2), -1);
+        Bench.due("no farther than S", Bench.after("view 10 7;tenant 9 15;", "blow 0 5;").view(0, 2), 0);
+        Bench.due("farther than S", Bench.after("view 10 7;tenant 9 15;", "blow 0 4;").view(0, 2), -1);
         Bench.noSuch(x, "view(3, 9)", () -> x.view(3, 9));
         Bench.noSuch(x, "view(-1, 0)", () -> x.view(-1, 0));
         Bench.wrongArgument(x, "view(0, 4)", () -> x.view(0, 4));
@@ -126,7 +113,7 @@ public final class SkyTest {
     }
 
     private static void promise14() {
-        BubbleLeases x = after(Bench.CORNER, "blow 0 8;blow 1 4;east 20;west 20;blow 2 1;east 20;west 20;");
+        BubbleLeases x = Bench.after(Bench.CORNER, "blow 0 8;blow 1 4;east 20;west 20;blow 2 1;east 20;west 20;");
         // The one at 90 went with the wind; the others touch, and last 3 and 5, then 4 without its wall.
         Bench.due("burst by now", x.told(6), 1);
         Bench.due("ahead(0, 0)", x.ahead(0, 0), 3);
@@ -166,7 +153,7 @@ public final class SkyTest {
         Bench.due("do not touch", x.wall(1, 3, 1), -1);
         Bench.due("has none", x.wall(0, 1, 1), -1);
         Bench.due("are one", x.wall(1, 1, 0), -1);
-        BubbleLeases y = after("tenant 9 10;tenant 9 30;tenant 9 29;", "blow 0 14;blow 1 6;blow 2 14;");
+        BubbleLeases y = Bench.after("tenant 9 10;tenant 9 30;tenant 9 29;", "blow 0 14;blow 1 6;blow 2 14;");
         Bench.due("21 by 2, just touching", y.wall(0, 1, 0), 21);
         Bench.due("21 by 2", y.wall(0, 1, 1), 2);
         Bench.due("flat above", y.wall(0, 2, 0), 0);
@@ -179,7 +166,7 @@ public final class SkyTest {
     }
 
     private static void promise16() {
-        BubbleLeases x = after(Bench.CORNER, "blow 0 8;blow 1 4;");
+        BubbleLeases x = Bench.after(Bench.CORNER, "blow 0 8;blow 1 4;");
         Bench.due("lasts(0)", x.lasts(0), 3);
         Bench.due("lasts(1), its wall gone", x.lasts(1), 4);
         Bench.due("has none", x.lasts(2), -1);
@@ -192,8 +179,8 @@ public final class SkyTest {
 
     private static void promise17() {
         BubbleLeases x = Bench.at(Bench.CORNER);
-        all("pitch", new int[] {x.pitch(5, 0), x.pitch(5, 1), x.pitch(20, 0), x.pitch(20, 1), x.pitch(1, 0)}, 45, 20, 30, 34, 49);
-        all("of none", new int[] {new BubbleLeases().pitch(3, 0), new BubbleLeases().pitch(3, 1)}, 0, 0);
+        Bench.answers("pitch", new int[] {x.pitch(5, 0), x.pitch(5, 1), x.pitch(20, 0), x.pitch(20, 1), x.pitch(1, 0)}, 45, 20, 30, 34, 49);
+        Bench.answers("of none", new int[] {new BubbleLeases().pitch(3, 0), new BubbleLeases().pitch(3, 1)}, 0, 0);
         Bench.due("worth nothing", Bench.at("view 50 0;").pitch(1, 0), 0);
         Bench.due("at the end", Bench.at("view 99 1;view 0 1;view 98 1;").pitch(1, 0), 98);
         Bench.wrongArgument(x, "pitch(0, 0)", () -> x.pitch(0, 0));
@@ -204,7 +191,7 @@ public final class SkyTest {
 
     private static void promise18() {
         BubbleLeases x = Bench.at(Bench.CORNER);
-        all("street", new int[] {x.street(5, 0), x.street(5, 1), x.street(5, 2), x.street(5, 3), x.street(5, 8), x.street(4, 2)},
+        Bench.answers("street", new int[] {x.street(5, 0), x.street(5, 1), x.street(5, 2), x.street(5, 3), x.street(5, 8), x.street(4, 2)},
                 0, 20, 34, 37, 37, 29);
         // The best single place is in the middle, the best two are not.
         BubbleLeases y = Bench.at("view 10 5;view 12 9;view 14 9;view 16 5;");
@@ -220,12 +207,12 @@ public final class SkyTest {
 
     private static void promise26() {
         BubbleLeases x = Bench.at(Bench.CORNER);
-        all("nobody", new int[] {x.richest(0), x.richest(1)}, -1, -1);
+        Bench.answers("nobody", new int[] {x.richest(0), x.richest(1)}, -1, -1);
         Bench.work(x, "blow 1 4;blow 2 5;");
-        all("richest", new int[] {x.richest(0), x.richest(1)}, 1, 9);
-        all("of alike ones the first", new int[] {row().richest(0), row().richest(1)}, 1, 1);
-        BubbleLeases y = after("tenant 9 1;tenant 9 2;", "blow 1 1;");
-        all("of no worth", new int[] {y.richest(0), y.richest(1)}, 1, 0);
+        Bench.answers("richest", new int[] {x.richest(0), x.richest(1)}, 1, 9);
+        Bench.answers("of alike ones the first", new int[] {row().richest(0), row().richest(1)}, 1, 1);
+        BubbleLeases y = Bench.after("tenant 9 1;tenant 9 2;", "blow 1 1;");
+        Bench.answers("of no worth", new int[] {y.richest(0), y.richest(1)}, 1, 0);
         Bench.wrongArgument(x, "richest(2)", () -> x.richest(2));
         Bench.wrongArgument(x, "richest(-1)", () -> x.richest(-1));
     }
@@ -233,22 +220,22 @@ public final class SkyTest {
     private static void promises27And33() {
         BubbleLeases x = Bench.at("view 10 5;view 20 9;view 50 9;view 95 0;tenant 20 12;tenant 20 55;tenant 20 90;");
         Bench.due("all idle", x.idle(), 15);
-        all("vacant", new int[] {x.vacant(0), x.vacant(1)}, 1, 9);
+        Bench.answers("vacant", new int[] {x.vacant(0), x.vacant(1)}, 1, 9);
         Bench.work(x, "blow 1 5;");
         Bench.due("idle", x.idle(), 11);
         Bench.work(x, "blow 0 8;");
         Bench.due("idle", x.idle(), 8);
-        all("of no worth", new int[] {x.vacant(0), x.vacant(1)}, 3, 0);
+        Bench.answers("of no worth", new int[] {x.vacant(0), x.vacant(1)}, 3, 0);
         Bench.work(x, "blow 2 20;");
         Bench.due("none idle", x.idle(), 0);
-        all("all are seen", new int[] {x.vacant(0), x.vacant(1)}, -1, -1);
+        Bench.answers("all are seen", new int[] {x.vacant(0), x.vacant(1)}, -1, -1);
         Bench.due("no views", new BubbleLeases().vacant(1), -1);
         Bench.wrongArgument(x, "vacant(2)", () -> x.vacant(2));
         Bench.wrongArgument(x, "vacant(-1)", () -> x.vacant(-1));
     }
 
     private static void promise28() {
-        BubbleLeases x = after("tenant 9 10;tenant 9 20;tenant 9 40;tenant 9 50;", "blow 0 3;blow 1 3;run 1 24;blow 2 5;breath;keep 2;");
+        BubbleLeases x = Bench.after("tenant 9 10;tenant 9 20;tenant 9 40;tenant 9 50;", "blow 0 3;blow 1 3;run 1 24;blow 2 5;breath;keep 2;");
         Bench.due("one stands too far, one is 0", x.under(), 1);
         Bench.work(x, "breath;run 1 23;");
         Bench.due("three", x.under(), 7);
@@ -270,8 +257,8 @@ public final class SkyTest {
     }
 
     private static void promise30() {
-        BubbleLeases x = after("tenant 9 10;tenant 9 90;tenant 9 99;tenant 9 0;", "blow 0 1;blow 1 1;blow 2 1;");
-        all("lost", new int[] {x.lost(1, 0), x.lost(9, 0), x.lost(10, 0), x.lost(10, 1), x.lost(11, 1), x.lost(20, 1)}, 4, 4, 6, 0, 1, 1);
+        BubbleLeases x = Bench.after("tenant 9 10;tenant 9 90;tenant 9 99;tenant 9 0;", "blow 0 1;blow 1 1;blow 2 1;");
+        Bench.answers("lost", new int[] {x.lost(1, 0), x.lost(9, 0), x.lost(10, 0), x.lost(10, 1), x.lost(11, 1), x.lost(20, 1)}, 4, 4, 6, 0, 1, 1);
         Bench.due("nothing stays changed", x.told(6), 0);
         Bench.wrongArgument(x, "lost(0, 0)", () -> x.lost(0, 0));
         Bench.wrongArgument(x, "lost(21, 0)", () -> x.lost(21, 0));
@@ -280,16 +267,16 @@ public final class SkyTest {
     }
 
     private static void promises31And32() {
-        BubbleLeases x = after("tenant 9 0;tenant 9 40;tenant 9 20;tenant 9 60;tenant 9 80;", "blow 0 10;blow 1 10;blow 2 10;blow 3 10;blow 4 10;");
+        BubbleLeases x = Bench.after("tenant 9 0;tenant 9 40;tenant 9 20;tenant 9 60;tenant 9 80;", "blow 0 10;blow 1 10;blow 2 10;blow 3 10;blow 4 10;");
         Bench.due("a chain of five", x.terrace(0), 31);
         Bench.due("by the far end", x.terrace(4), 31);
-        all("overlap", new int[] {x.overlap(0, 2), x.overlap(0, 4), x.overlap(4, 0)}, 0, -60, -60);
+        Bench.answers("overlap", new int[] {x.overlap(0, 2), x.overlap(0, 4), x.overlap(4, 0)}, 0, -60, -60);
         BubbleLeases y = row();
-        all("terrace", new int[] {y.terrace(3), y.terrace(0)}, 14, 0);
-        all("overlap", new int[] {y.overlap(1, 2), y.overlap(2, 1), y.overlap(1, 3)}, 1, 1, -11);
-        all("none, or one", new int[] {y.overlap(0, 1), y.overlap(1, 4), y.overlap(1, 1)},
+        Bench.answers("terrace", new int[] {y.terrace(3), y.terrace(0)}, 14, 0);
+        Bench.answers("overlap", new int[] {y.overlap(1, 2), y.overlap(2, 1), y.overlap(1, 3)}, 1, 1, -11);
+        Bench.answers("none, or one", new int[] {y.overlap(0, 1), y.overlap(1, 4), y.overlap(1, 1)},
                 Integer.MIN_VALUE, Integer.MIN_VALUE, Integer.MIN_VALUE);
-        Bench.due("alone", after("tenant 9 0;tenant 9 9;", "blow 0 4;blow 1 4;").terrace(1), 2);
+        Bench.due("alone", Bench.after("tenant 9 0;tenant 9 9;", "blow 0 4;blow 1 4;").terrace(1), 2);
         Bench.noSuch(x, "terrace(5)", () -> x.terrace(5));
         Bench.noSuch(x, "terrace(-1)", () -> x.terrace(-1));
         Bench.noSuch(x, "overlap(5, 0)", () -> x.overlap(5, 0));
@@ -298,17 +285,17 @@ public final class SkyTest {
 
     private static void promise34() {
         BubbleLeases x = Bench.at("view 10 5;view 30 5;view 31 5;tenant 0 10;");
-        all("needs", new int[] {x.needs(0, 0), x.needs(0, 1), x.needs(0, 2)}, 1, 20, -1);
+        Bench.answers("needs", new int[] {x.needs(0, 0), x.needs(0, 1), x.needs(0, 2)}, 1, 20, -1);
         Bench.work(x, "run 0 12;");
-        all("where he stands", new int[] {x.needs(0, 0), x.needs(0, 1), x.needs(0, 2)}, 2, 18, 19);
+        Bench.answers("where he stands", new int[] {x.needs(0, 0), x.needs(0, 1), x.needs(0, 2)}, 2, 18, 19);
         Bench.noSuch(x, "needs(1, 0)", () -> x.needs(1, 0));
         Bench.noSuch(x, "needs(0, 3)", () -> x.needs(0, 3));
         Bench.noSuch(x, "needs(0, -1)", () -> x.needs(0, -1));
     }
 
     private static void promise35() {
-        BubbleLeases x = after("tenant 9 10;tenant 5 20;tenant 0 30;tenant 9 40;", "blow 0 1;blow 3 1;");
-        all("buyers", new int[] {x.buyers(0, 0), x.buyers(0, 5), x.buyers(0, 6), x.buyers(1, 0)}, 6, 2, 0, 0);
+        BubbleLeases x = Bench.after("tenant 9 10;tenant 5 20;tenant 0 30;tenant 9 40;", "blow 0 1;blow 3 1;");
+        Bench.answers("buyers", new int[] {x.buyers(0, 0), x.buyers(0, 5), x.buyers(0, 6), x.buyers(1, 0)}, 6, 2, 0, 0);
         Bench.noSuch(x, "buyers(4, 100)", () -> x.buyers(4, 100));
         Bench.wrongArgument(x, "buyers(0, 100)", () -> x.buyers(0, 100));
         Bench.wrongArgument(x, "buyers(1, -1)", () -> x.buyers(1, -1));
@@ -320,15 +307,15 @@ public final class SkyTest {
             BubbleLeases x = Bench.at("tenant " + money + " 3;");
             Bench.due("affords by " + money, x.affords(0), due[money]);
         }
-        BubbleLeases x = after("tenant 9 3;", "blow 0 1;");
+        BubbleLeases x = Bench.after("tenant 9 3;", "blow 0 1;");
         Bench.due("has one", x.affords(0), -1);
         Bench.noSuch(x, "affords(1)", () -> x.affords(1));
         Bench.noSuch(x, "affords(-1)", () -> x.affords(-1));
     }
 
     private static void promise37() {
-        BubbleLeases x = after(Bench.CORNER, "blow 0 8;");
-        all("front", new int[] {x.front(0, 99, 0), x.front(0, 99, 1), x.front(10, 20, 0), x.front(11, 20, 0), x.front(10, 19, 0),
+        BubbleLeases x = Bench.after(Bench.CORNER, "blow 0 8;");
+        Bench.answers("front", new int[] {x.front(0, 99, 0), x.front(0, 99, 1), x.front(10, 20, 0), x.front(11, 20, 0), x.front(10, 19, 0),
             x.front(50, 50, 1), x.front(50, 49, 1)}, 14, 23, 14, 9, 5, 20, 0);
         Bench.wrongArgument(x, "front(-1, 0, 0)", () -> x.front(-1, 0, 0));
         Bench.wrongArgument(x, "front(100, 0, 0)", () -> x.front(100, 0, 0));
@@ -340,11 +327,11 @@ public final class SkyTest {
 
     private static void promise38() {
         BubbleLeases x = Bench.at("view 50 5;view 0 1;tenant 9 99;tenant 9 40;tenant 9 60;");
-        all("no bubbles", new int[] {x.closest(0, 0), x.closest(0, 1)}, -1, -1);
+        Bench.answers("no bubbles", new int[] {x.closest(0, 0), x.closest(0, 1)}, -1, -1);
         Bench.work(x, "blow 0 1;");
-        all("far away", new int[] {x.closest(1, 0), x.closest(1, 1)}, 0, 99);
+        Bench.answers("far away", new int[] {x.closest(1, 0), x.closest(1, 1)}, 0, 99);
         Bench.work(x, "blow 2 20;blow 1 1;");
-        all("of alike ones the first", new int[] {x.closest(0, 0), x.closest(0, 1)}, 1, 10);
+        Bench.answers("of alike ones the first", new int[] {x.closest(0, 0), x.closest(0, 1)}, 1, 10);
         Bench.noSuch(x, "closest(2, 9)", () -> x.closest(2, 9));
         Bench.wrongArgument(x, "closest(0, 2)", () -> x.closest(0, 2));
         Bench.wrongArgument(x, "closest(0, -1)", () -> x.closest(0, -1));

@@ -194,15 +194,8 @@ public final class TextsTest {
         lawFault("1;", 1, 1);
     }
 
-    /** The answer of a last WORK behind others on the bench's corner. */
-    private static BubbleLeases after(String work) {
-        BubbleLeases x = Bench.at(Bench.CORNER);
-        Bench.due("a clean work", Bench.work(x, work) >= 0 ? 1 : 0, 1);
-        return x;
-    }
-
     private static void promise5Steps() {
-        BubbleLeases x = after("blow 0 4;");
+        BubbleLeases x = Bench.after(Bench.CORNER, "blow 0 4;");
         Bench.due("blow of 4 costs 1", x.tenant(0, 0), 19);
         Bench.due("blow 1 20 costs 5", Bench.work(x, "blow 1 20;"), 1);
         Bench.due("all his money", x.tenant(1, 0), 0);
@@ -214,24 +207,24 @@ public final class TextsTest {
         Bench.due("20 costs 5, 19 costs 4", Bench.work(x, "blow 0 20;blow 1 19;"), 1);
         Bench.due("who could pay", x.told(4), 2);
 
-        x = after("blow 2 1;east 9;");
+        x = Bench.after(Bench.CORNER, "blow 2 1;east 9;");
         Bench.due("99 is not beyond", x.bubble(2, 1), 99);
         Bench.due("beyond", Bench.work(x, "east 1;"), 1);
         Bench.due("is burst", x.told(6), 1);
         Bench.due("none is left for winds", Bench.work(x, "east 1;west 1;"), 0);
-        x = after("blow 0 1;blow 1 1;west 12;");
+        x = Bench.after(Bench.CORNER, "blow 0 1;blow 1 1;west 12;");
         Bench.due("0 is not below", x.bubble(0, 1), 0);
         Bench.due("the other one too", x.bubble(1, 1), 12);
         Bench.work(x, "west 1;");
         Bench.due("below", x.told(4), 2);
 
-        x = after("run 0 12;run 0 99;run 0 99;");
+        x = Bench.after(Bench.CORNER, "run 0 12;run 0 99;run 0 99;");
         Bench.due("where he stands", x.tenant(0, 1), 99);
         Bench.due("refused where he stands", x.told(10), 2);
         Bench.work(x, "blow 0 1;");
         Bench.due("the bubble is where he stands", x.bubble(0, 1), 99);
 
-        x = after("blow 0 9;breath;sell 0 0 0;sell 1 2 0;sell 0 1 6;sell 0 1 5;");
+        x = Bench.after(Bench.CORNER, "blow 0 9;breath;sell 0 0 0;sell 1 2 0;sell 0 1 6;sell 0 1 5;");
         Bench.due("three refused", x.told(10), 3);
         Bench.due("the seller's money", x.tenant(0, 0), 23);
         Bench.due("the buyer's money", x.tenant(1, 0), 0);
@@ -240,7 +233,7 @@ public final class TextsTest {
         Bench.due("its place", x.bubble(1, 1), 12);
         Bench.due("to one who has one", Bench.work(x, "blow 0 1;sell 1 0 0;"), 1);
 
-        x = after("keep 0;blow 0 3;keep 0;breath;east 3;keep 0;");
+        x = Bench.after(Bench.CORNER, "keep 0;blow 0 3;keep 0;breath;east 3;keep 0;");
         Bench.due("refused without, and at 0", x.told(10), 2);
         Bench.due("kept", x.bubble(0, 2), 0);
         Bench.due("too far", Bench.work(x, "breath;east 1;keep 0;"), 2);

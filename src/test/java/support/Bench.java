@@ -10,6 +10,7 @@ public final class Bench {
 
     private static int checks = 0;
     private static int wrong = 0;
+    private static String head = "";
 
     private Bench() {
     }
@@ -18,7 +19,23 @@ public final class Bench {
         checks++;
         if (got != want) {
             wrong++;
-            System.out.println(what + " answered " + got + ", due is " + want);
+            System.out.println(head + what + " answered " + got + ", due is " + want);
+        }
+    }
+
+    /** What stands ahead of each wrong answer from now on. */
+    public static void under(String heading) {
+        head = heading;
+    }
+
+    public static int checks() {
+        return checks;
+    }
+
+    public static void answers(String name, int[] got, int... due) {
+        due(name + " has as many", got.length, due.length);
+        for (int i = 0; i < due.length; i++) {
+            due(name + " " + i, got[i], due[i]);
         }
     }
 
@@ -79,6 +96,13 @@ public final class Bench {
     public static BubbleLeases at(String corner) {
         BubbleLeases x = new BubbleLeases();
         due("corner " + corner, corner(x, corner) >= 0 ? 1 : 0, 1);
+        return x;
+    }
+
+    /** A new object whose CORNER is told and whose WORK, which has no FAULT, is done. */
+    public static BubbleLeases after(String corner, String work) {
+        BubbleLeases x = at(corner);
+        due("work " + work, work(x, work) >= 0 ? 1 : 0, 1);
         return x;
     }
 
