@@ -14,10 +14,6 @@ final class FaultEdges extends Edge {
         ofOneTheLeast();
     }
 
-    private static BubbleLeases three() {
-        return at(Bench.CORNER);
-    }
-
     private static void cornerFault(String text, int kind, int place) {
         faulty(Edge::fresh, Bench::corner, text, kind, place);
     }
@@ -27,11 +23,11 @@ final class FaultEdges extends Edge {
     }
 
     private static void workFault(String text, int kind, int place) {
-        faulty(FaultEdges::three, Bench::work, text, kind, place);
+        faulty(Edge::three, Bench::work, text, kind, place);
     }
 
     private static void bookFault(String text, int kind, int place) {
-        faulty(FaultEdges::three, Bench::book, text, kind, place);
+        faulty(Edge::three, Bench::book, text, kind, place);
     }
 
     private static void numbers() {
@@ -39,8 +35,8 @@ final class FaultEdges extends Edge {
         String zeros = "0".repeat(120);
         BubbleLeases x = at("view " + zeros + "99 " + zeros + "60;tenant 0099 00099;soap 020;");
         answers("naughts ahead", new int[] {x.view(0, 0), x.view(0, 1), x.tenant(0, 0), x.tenant(0, 1), x.told(2)}, 99, 60, 99, 99, 20);
-        right(FaultEdges::three, Bench::work, "blow" + zeros + "2 020;", 1);
-        right(FaultEdges::three, Bench::book, "003 " + "0".repeat(40) + "5;", 1);
+        right(Edge::three, Bench::work, "blow" + zeros + "2 020;", 1);
+        right(Edge::three, Bench::book, "003 " + "0".repeat(40) + "5;", 1);
         BubbleLeases y = fresh();
         due("a law of naughts and 7", Bench.law(y, zeros + "7"), 1);
         due("is 7", y.would(1, 1, 0, 0, 0, 0, 0, 0), 7);
@@ -90,8 +86,28 @@ final class FaultEdges extends Edge {
         workFault("breat;", 1, 0);
         workFault("breathbreath;", 1, 0);
         workFault("size;", 1, 0);
-        right(FaultEdges::three, Bench::work, "blow0 1;east1;run0 0;again1[breath;];", 4);
+        right(Edge::three, Bench::work, "blow0 1;east1;run0 0;again1[breath;];", 4);
+        spoilt(Edge::fresh, Bench::corner, "view", " 5 5;", "tenant", " 5 5;", "soap", " 5;");
+        spoilt(Edge::fresh, Bench::law, "size", "", "soap", "", "walls", "", "place", "", "worth", "", "breath", "", "blown", "", "tenant", "",
+                "least", "[1,1]", "most", "[1,1]");
+        spoilt(Edge::three, Bench::work, "blow", " 0 1;", "east", " 1;", "west", " 1;", "run", " 0 1;", "sell", " 0 1 1;", "keep", " 0;",
+                "breath", ";", "again", " 1[];");
         bookFault("view 0 0;", 1, 0);
+    }
+
+    /** Words and what comes behind them: right as they are, a FAULT with any letter another one, left out or twice. */
+    private static void spoilt(Make make, Take take, String... pairs) {
+        for (int p = 0; p < pairs.length; p += 2) {
+            String word = pairs[p];
+            due("'" + word + pairs[p + 1] + "' is right", take.take(make.make(), word + pairs[p + 1]) >= 0 ? 1 : 0, 1);
+            for (int i = 0; i < word.length(); i++) {
+                String ahead = word.substring(0, i);
+                String behind = word.substring(i + 1) + pairs[p + 1];
+                faulty(make, take, ahead + "q" + behind, 1, 0);
+                faulty(make, take, ahead + behind, 1, 0);
+                faulty(make, take, ahead + word.charAt(i) + word.charAt(i) + behind, 1, 0);
+            }
+        }
     }
 
     private static void blanks() {
@@ -99,9 +115,9 @@ final class FaultEdges extends Edge {
         right(Edge::fresh, Bench::corner, "  view  5  5  ;  tenant  5  5  ;  soap  5  ;  ", 1);
         right(Edge::fresh, Bench::corner, "view5 5;tenant5 5;soap5;", 1);
         right(Edge::fresh, Bench::law, "  least  [  (  1  +  2  )  ,  3  -  size  *  2  /  1  %  5  ]  ", 1);
-        right(FaultEdges::three, Bench::work, "  blow  0  1  ;  again  2  [  breath  ;  ]  ;  ", 3);
-        right(FaultEdges::three, Bench::work, "again 2 [ ] ; ", 0);
-        right(FaultEdges::three, Bench::book, "  0  5  ;  1  5  ;  ", 2);
+        right(Edge::three, Bench::work, "  blow  0  1  ;  again  2  [  breath  ;  ]  ;  ", 3);
+        right(Edge::three, Bench::work, "again 2 [ ] ; ", 0);
+        right(Edge::three, Bench::book, "  0  5  ;  1  5  ;  ", 2);
         for (char other : new char[] {0, 9, 10, 13, 31, 33, 127, 128, 160, 255}) {
             cornerFault(other + "soap 5;", 1, 0);
             cornerFault("soap" + other + "5;", 1, 4);
@@ -178,7 +194,7 @@ final class FaultEdges extends Edge {
         bookFault("3 5;3", 2, 4);
         bookFault("3 5;3 9", 2, 4);
         bookFault("0 1;1 1;2 1;3 1;  0 1;", 2, 18);
-        right(FaultEdges::three, Bench::book, "0 3;3 0;1 1;2 1;", 4);
+        right(Edge::three, Bench::book, "0 3;3 0;1 1;2 1;", 4);
     }
 
     private static void tooMany() {
@@ -213,9 +229,9 @@ final class FaultEdges extends Edge {
         lawFault("((((((1+(1", 3, 8);
         lawFault("((((((1)+(1", 1, 11);
         String six = "again 1[".repeat(6);
-        right(FaultEdges::three, Bench::work, six + "breath;" + "];".repeat(6), 1);
-        right(FaultEdges::three, Bench::work, "again 1[];".repeat(15), 0);
-        right(FaultEdges::three, Bench::work, six + "];".repeat(6) + six + "];".repeat(6), 0);
+        right(Edge::three, Bench::work, six + "breath;" + "];".repeat(6), 1);
+        right(Edge::three, Bench::work, "again 1[];".repeat(15), 0);
+        right(Edge::three, Bench::work, six + "];".repeat(6) + six + "];".repeat(6), 0);
         workFault(six + "again 1[];" + "];".repeat(6), 3, 48);
         workFault(six + "  again", 3, 50);
         workFault(six + "];again 1[again 1[];", 3, 58);

@@ -9,21 +9,36 @@ final class PastEdges extends Edge {
 
     private static void promise41() {
         says(41, "An IMAGE of all that WORK changes, and of the WORKS that can be undone:");
-        BubbleLeases x = at(Bench.CORNER);
-        Bench.work(x, "blow 0 1;breath;run 1 5;");
-        Bench.work(x, "blow 1 4;sell 0 2 3;east 20;east 20;east 20;east 20;");
-        BubbleLeases y = at(Bench.CORNER);
-        Bench.work(y, "blow 0 1;breath;run 1 5;");
-        Bench.work(y, "blow 1 4;sell 0 2 3;east 20;east 20;east 20;east 20;");
+        // None of these STEPS is REFUSED, so told(10) is 0 as it is behind restore().
+        Make two = () -> after(Bench.CORNER, "blow 0 1;breath;run 1 5;", "blow 1 4;sell 0 2 3;east 20;east 20;east 20;east 20;");
+        BubbleLeases x = two.make();
         x.image();
         Bench.work(x, "breath;breath;blow 0 5;run 0 77;run 1 78;run 2 79;blow 2 5;");
-        x.undo();
-        x.undo();
-        x.undo();
-        Bench.work(x, "run 0 1;breath;");
         x.restore();
-        // Of the twin's latest WORK none was REFUSED either, as behind restore().
-        same("what came behind an image", x, y);
+        same("a work behind an image", x, two.make());
+        BubbleLeases y = two.make();
+        y.image();
+        y.undo();
+        y.undo();
+        Bench.work(y, "run 0 1;breath;");
+        Bench.work(y, "blow 0 20;breath;run 1 50;");
+        Bench.work(y, "west 5;breath;run 2 60;");
+        Bench.work(y, "breath;");
+        y.restore();
+        same("other works in the place of those that were there", y, two.make());
+        BubbleLeases most = after(Bench.CORNER, "blow 0 1;blow 1 20;east 1;east 1;east 1;");
+        for (int i = 2; i <= 16; i++) {
+            Bench.work(most, "east 1;");
+        }
+        most.image();
+        for (int i = 0; i < 16; i++) {
+            most.undo();
+        }
+        Bench.work(most, "breath;");
+        most.restore();
+        answers("16 works, and what is there behind them", new int[] {most.count(2), most.bubble(0, 1), most.bubble(1, 1)}, 16, 30, 42);
+        most.undo();
+        answers("15 works", new int[] {most.count(2), most.bubble(0, 1), most.bubble(1, 1)}, 15, 29, 41);
         BubbleLeases z = rich();
         z.image();
         answers("an image changes nothing else", new int[] {z.told(3), z.told(4), z.told(10), z.count(1), z.count(2), z.fault()}, 2, 7, 1, 20, 3, 2);

@@ -3,7 +3,6 @@ import java.util.List;
 /** The Terms from ==== 3 on: what is asked, and what comes out of it. */
 final class QuestionEdges extends Edge {
     private static final int T = Doc.TERMS;
-    private static final String HUNDRED = "again 10[again 10[breath;];];";
 
     static void run() {
         nothingStays();
@@ -153,6 +152,9 @@ final class QuestionEdges extends Edge {
         answers("at both ends", new int[] {at("view 0 5;view 99 6;").street(1, 1), at("view 0 5;view 99 6;").street(20, 2)}, 6, 11);
         answers("twice S apart, and one more", new int[] {at("view 0 5;view 40 6;").street(20, 1), at("view 0 5;view 41 6;").street(20, 1),
             at("view 59 5;view 99 6;").street(20, 1), at("view 58 5;view 99 6;").street(20, 1)}, 11, 6, 11, 6);
+        answers("a second one just behind the first", new int[] {at("view 0 5;view 41 6;").street(20, 2), at("view 30 5;view 33 6;").street(1, 2)}, 11, 11);
+        // One from the second VIEW on sees more than one from the first on, which is just ahead.
+        answers("the first is left out", new int[] {at("view 30 1;view 31 5;view 35 9;").street(2, 1), at("view 0 1;view 1 5;view 41 9;").street(20, 1)}, 14, 14);
         answers("a view that two see counts once", new int[] {at("view 50 5;").street(3, 2), at("view 50 5;view 51 6;").street(3, 8)}, 5, 11);
         answers("they may touch", new int[] {at("view 50 5;view 53 6;view 56 7;view 59 8;").street(2, 2)}, 26);
         // The best one would take the middle, and leave one of the outer ones.

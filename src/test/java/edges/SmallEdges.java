@@ -127,6 +127,8 @@ final class SmallEdges extends Edge {
         BubbleLeases x = after("tenant 9 10;tenant 0 20;tenant 7 30;tenant 99 40;tenant 9 50;", "blow 0 1;blow 4 1;");
         answers("by their money", new int[] {x.buyers(0, 0), x.buyers(0, 1), x.buyers(0, 7), x.buyers(0, 8), x.buyers(0, 99)}, 14, 12, 12, 8, 8);
         answers("he has none", new int[] {x.buyers(1, 0), x.buyers(3, 99)}, 0, 0);
+        BubbleLeases last = after("tenant 5 10;tenant 6 20;tenant 9 30;", "blow 2 1;");
+        answers("the first may buy, too", new int[] {last.buyers(2, 0), last.buyers(2, 5), last.buyers(2, 6), last.buyers(2, 7)}, 3, 3, 2, 0);
         due("all have one", full().buyers(0, 0), 0);
         due("nobody else is there", after("tenant 9 5;", "blow 0 1;").buyers(0, 0), 0);
         BubbleLeases y = after("tenant 9 10;tenant 99 20;tenant 5 30;", "blow 0 1;sell 0 1 0;blow 0 1;sell 1 2 5;");

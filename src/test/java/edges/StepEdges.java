@@ -3,8 +3,6 @@ import java.util.List;
 /** The Terms from ==== 2 on: BUBBLES, and what each STEP does or why it is REFUSED. */
 final class StepEdges extends Edge {
     private static final int T = Doc.TERMS;
-    /** A hundred BREATHS. */
-    private static final String HUNDRED = "again 10[again 10[breath;];];";
 
     static void run() {
         atFirst();
@@ -260,7 +258,11 @@ final class StepEdges extends Edge {
         answers("money, be it more than 99", new int[] {x.tenant(0, 0), x.tenant(1, 0), x.told(7)}, 184, 0, 184);
         answers("neither blown nor burst, nobody runs", new int[] {x.told(5), x.told(6), x.tenant(0, 1), x.tenant(1, 1)}, 1, 0, 10, 60);
         done("back, for nothing", x, "sell 1 0 0;", 1, 0);
-        answers("money", new int[] {x.tenant(0, 0), x.tenant(1, 0), x.bubble(0, 2)}, 184, 0, 2);
+        answers("money", new int[] {x.tenant(0, 0), x.tenant(1, 0)}, 184, 0);
+        answers("it is as it was", new int[] {x.bubble(0, 0), x.bubble(0, 1), x.bubble(0, 2)}, 20, 17, 2);
+        BubbleLeases y = after("tenant 90 10;tenant 80 20;tenant 70 30;tenant 60 40;tenant 50 50;", "blow 4 9;breath;west 3;sell 4 2 31;breath;run 4 9;");
+        answers("from the last to another one, with more behind it", new int[] {y.told(4), y.bubble(2, 0), y.bubble(2, 1), y.bubble(2, 2)}, 4, 9, 47, 2);
+        answers("their money", new int[] {y.tenant(0, 0), y.tenant(1, 0), y.tenant(2, 0), y.tenant(3, 0), y.tenant(4, 0)}, 90, 80, 39, 60, 79);
     }
 
     private static void sellsRefused() {

@@ -102,6 +102,16 @@ final class TapeEdges extends Edge {
         answers("all count, all are gone", new int[] {x.told(2), x.told(0), x.count(1)}, 7, 1, 0);
         Bench.feed(x, "soap 7;soap 8;soap 9");
         Bench.faulty(x, "20 of 20 at fault: they are gone, too", x.corner(20), 1, 20);
+        Bench.feed(x, "soapsoap 7;");
+        Bench.faulty(x, "4 of them: a word ends where they do", x.corner(4), 1, 4);
+        Bench.feed(x, "soap 77;");
+        Bench.faulty(x, "6 of them: a number ends where they do", x.corner(6), 1, 6);
+        Bench.feed(x, "soap 7;");
+        Bench.faulty(x, "6 of them: without the sign", x.corner(6), 1, 6);
+        Bench.feed(x, " ".repeat(596) + "soap");
+        Bench.faulty(x, "a word up to the last of 600", x.corner(600), 1, 600);
+        Bench.feed(x, " ".repeat(594) + "soap 7");
+        Bench.faulty(x, "a number up to the last of 600", x.corner(600), 1, 600);
 
         says(3, "how many TENANTS;");
         int[] due = {0, 1, 5};
@@ -174,6 +184,10 @@ final class TapeEdges extends Edge {
         due("3 of 20", x.law(3), 1);
         answers("3 bytes count, all are gone", new int[] {x.would(1, 1, 0, 0, 0, 0, 0, 0), x.count(1)}, 15, 0);
         due("less 10", Bench.law(x, "7+"), -9);
+        Bench.feed(x, "sizesize");
+        answers("a word ends where they do", new int[] {x.law(4), x.would(13, 1, 0, 0, 0, 0, 0, 0)}, 1, 13);
+        Bench.feed(x, "1555");
+        answers("a number ends where they do", new int[] {x.law(2), x.would(1, 1, 0, 0, 0, 0, 0, 0)}, 1, 15);
         due("less 10", Bench.law(x, "1000"), -8);
         due("less 10", Bench.law(x, "((((((("), -7);
         due("it stays", x.would(1, 1, 0, 0, 0, 0, 0, 0), 15);
@@ -205,6 +219,10 @@ final class TapeEdges extends Edge {
         Bench.feed(x, "blow 0 5;blow 1 5;bl");
         due("9 of 20", x.work(9), 1);
         answers("9 bytes count, all are gone", new int[] {x.told(4), x.count(1)}, 1, 0);
+        Bench.feed(x, "breathbreath;");
+        Bench.faulty(x, "a word ends where they do", x.work(6), 1, 6);
+        Bench.feed(x, "keep 11;");
+        Bench.faulty(x, "a number ends where they do", x.work(6), 1, 6);
         Make make = () -> {
             BubbleLeases y = rich();
             Bench.feed(y, " ".repeat(160));
@@ -219,13 +237,13 @@ final class TapeEdges extends Edge {
         allowed("work(20) of 20", Edge::rich, y -> y.work(20));
 
         says(5, "how many STEPS were done (agains not counted, nor REFUSED ones);");
-        right(() -> at(Bench.CORNER), Bench::work, "", 0);
-        right(() -> at(Bench.CORNER), Bench::work, "breath;", 1);
-        right(() -> at(Bench.CORNER), Bench::work, "again 5[];", 0);
-        right(() -> at(Bench.CORNER), Bench::work, "again 5[again 1[];];", 0);
-        right(() -> at(Bench.CORNER), Bench::work, "again 5[breath;];", 5);
-        right(() -> at(Bench.CORNER), Bench::work, "keep 0;east 1;", 0);
-        right(() -> at(Bench.CORNER), Bench::work, "again 3[blow 0 1;breath;];", 4);
+        right(Edge::three, Bench::work, "", 0);
+        right(Edge::three, Bench::work, "breath;", 1);
+        right(Edge::three, Bench::work, "again 5[];", 0);
+        right(Edge::three, Bench::work, "again 5[again 1[];];", 0);
+        right(Edge::three, Bench::work, "again 5[breath;];", 5);
+        right(Edge::three, Bench::work, "keep 0;east 1;", 0);
+        right(Edge::three, Bench::work, "again 3[blow 0 1;breath;];", 4);
     }
 
     private static void promise5Fault() {
@@ -281,6 +299,8 @@ final class TapeEdges extends Edge {
         due("less 10", Bench.book(x, "0"), -9);
         due("less 10", Bench.book(x, "0 6;"), -8);
         due("it stays", x.told(9), 3);
+        Bench.feed(x, "0 55;");
+        Bench.faulty(x, "a number ends where they do", x.book(3), 1, 3);
         due("another one is no more lines, but other ones", Bench.book(x, "3 1;"), 1);
         due("so told", x.told(9), 1);
         due("none", Bench.book(x, ""), 0);

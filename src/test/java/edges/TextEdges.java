@@ -357,24 +357,20 @@ final class TextEdges extends Edge {
 
     // ---- WORK
 
-    private static BubbleLeases three() {
-        return at(Bench.CORNER);
-    }
-
     private static BubbleLeases five() {
         return at(FIVE);
     }
 
     private static void workText() {
         says(T, "WORK is a text of up to 150 bytes: { STEP \";\" }.");
-        right(TextEdges::three, Bench::work, "", 0);
-        right(TextEdges::three, Bench::work, "  ", 0);
+        right(Edge::three, Bench::work, "", 0);
+        right(Edge::three, Bench::work, "  ", 0);
         BubbleLeases x = three();
         due("25 of six bytes", Bench.work(x, "keep0;".repeat(24) + "east1;"), 0);
         due("25 were refused", x.told(10), 25);
         due("three bytes of 150 are blanks", Bench.work(x, "breath;".repeat(21) + "   "), 21);
-        faulty(TextEdges::three, Bench::work, " ".repeat(144) + "breath", 1, 150);
-        right(TextEdges::three, Bench::work, " ".repeat(143) + "breath;", 1);
+        faulty(Edge::three, Bench::work, " ".repeat(144) + "breath", 1, 150);
+        right(Edge::three, Bench::work, " ".repeat(143) + "breath;", 1);
         Make longer = () -> {
             BubbleLeases y = three();
             Bench.feed(y, " ".repeat(151));
@@ -382,71 +378,71 @@ final class TextEdges extends Edge {
         };
         allowed("work(150)", longer, y -> y.work(150));
         wrong("work(151)", longer, y -> y.work(151));
-        faulty(TextEdges::three, Bench::work, ";", 1, 0);
-        faulty(TextEdges::three, Bench::work, "breath;;", 1, 7);
-        faulty(TextEdges::three, Bench::work, "breath breath;", 1, 7);
+        faulty(Edge::three, Bench::work, ";", 1, 0);
+        faulty(Edge::three, Bench::work, "breath;;", 1, 7);
+        faulty(Edge::three, Bench::work, "breath breath;", 1, 7);
     }
 
     private static void workSteps() {
         says(T, "STEP: \"blow\" T S (S 1 to 20),");
-        number(TextEdges::three, Bench::work, "blow ", 0, 2, " 5;");
+        number(Edge::three, Bench::work, "blow ", 0, 2, " 5;");
         number(TextEdges::five, Bench::work, "blow ", 0, 4, " 5;");
-        number(TextEdges::three, Bench::work, "blow 0 ", 1, 20, ";");
+        number(Edge::three, Bench::work, "blow 0 ", 1, 20, ";");
         faulty(Edge::fresh, Bench::work, "blow 0 5;", 2, 5);
-        faulty(TextEdges::three, Bench::work, "blow 0;", 1, 6);
-        faulty(TextEdges::three, Bench::work, "blow 0 5 5;", 1, 9);
+        faulty(Edge::three, Bench::work, "blow 0;", 1, 6);
+        faulty(Edge::three, Bench::work, "blow 0 5 5;", 1, 9);
 
         says(T, "\"east\" N (1 to 20), \"west\" N (likewise),");
-        number(TextEdges::three, Bench::work, "east ", 1, 20, ";");
-        number(TextEdges::three, Bench::work, "west ", 1, 20, ";");
+        number(Edge::three, Bench::work, "east ", 1, 20, ";");
+        number(Edge::three, Bench::work, "west ", 1, 20, ";");
         right(Edge::fresh, Bench::work, "east 20;west 1;", 0);
-        faulty(TextEdges::three, Bench::work, "east;", 1, 4);
-        faulty(TextEdges::three, Bench::work, "west 1 1;", 1, 7);
+        faulty(Edge::three, Bench::work, "east;", 1, 4);
+        faulty(Edge::three, Bench::work, "west 1 1;", 1, 7);
 
         says(T, "\"run\" T X (0 to 99),");
-        number(TextEdges::three, Bench::work, "run ", 0, 2, " 5;");
+        number(Edge::three, Bench::work, "run ", 0, 2, " 5;");
         number(TextEdges::five, Bench::work, "run ", 0, 4, " 5;");
-        number(TextEdges::three, Bench::work, "run 0 ", 0, 99, ";");
+        number(Edge::three, Bench::work, "run 0 ", 0, 99, ";");
         faulty(Edge::fresh, Bench::work, "run 0 5;", 2, 4);
-        faulty(TextEdges::three, Bench::work, "run 0;", 1, 5);
+        faulty(Edge::three, Bench::work, "run 0;", 1, 5);
 
         says(T, "\"sell\" T T N (0 to 99),");
-        number(TextEdges::three, Bench::work, "sell ", 0, 2, " 1 5;");
-        number(TextEdges::three, Bench::work, "sell 1 ", 0, 2, " 5;");
+        number(Edge::three, Bench::work, "sell ", 0, 2, " 1 5;");
+        number(Edge::three, Bench::work, "sell 1 ", 0, 2, " 5;");
         number(TextEdges::five, Bench::work, "sell ", 0, 4, " 1 5;");
         number(TextEdges::five, Bench::work, "sell 1 ", 0, 4, " 5;");
-        number(TextEdges::three, Bench::work, "sell 0 1 ", 0, 99, ";");
-        faulty(TextEdges::three, Bench::work, "sell 0 1;", 1, 8);
+        number(Edge::three, Bench::work, "sell 0 1 ", 0, 99, ";");
+        faulty(Edge::three, Bench::work, "sell 0 1;", 1, 8);
         faulty(Edge::fresh, Bench::work, "sell 0 0 0;", 2, 5);
 
         says(T, "\"keep\" T, \"breath\",");
-        number(TextEdges::three, Bench::work, "keep ", 0, 2, ";");
+        number(Edge::three, Bench::work, "keep ", 0, 2, ";");
         number(TextEdges::five, Bench::work, "keep ", 0, 4, ";");
         faulty(Edge::fresh, Bench::work, "keep 0;", 2, 5);
-        faulty(TextEdges::three, Bench::work, "keep;", 1, 4);
+        faulty(Edge::three, Bench::work, "keep;", 1, 4);
         right(Edge::fresh, Bench::work, "breath;", 1);
-        faulty(TextEdges::three, Bench::work, "breath 1;", 1, 7);
+        faulty(Edge::three, Bench::work, "breath 1;", 1, 7);
     }
 
     private static void workAgain() {
         says(T, "or \"again\" N \"[\" { STEP \";\" } \"]\" (N 0 to 30).");
-        number(TextEdges::three, Bench::work, "again ", 0, 30, "[breath;];");
-        right(TextEdges::three, Bench::work, "again 0[breath;];", 0);
-        right(TextEdges::three, Bench::work, "again 1[breath;];", 1);
-        right(TextEdges::three, Bench::work, "again 30[breath;];", 30);
-        right(TextEdges::three, Bench::work, "again 30[];breath;", 1);
-        right(TextEdges::three, Bench::work, "again 2[breath;again 3[breath;];breath;];breath;", 11);
-        faulty(TextEdges::three, Bench::work, "again[breath;];", 1, 5);
-        faulty(TextEdges::three, Bench::work, "again 1 breath;", 1, 8);
-        faulty(TextEdges::three, Bench::work, "again 1(breath;);", 1, 7);
-        faulty(TextEdges::three, Bench::work, "again 1[breath];", 1, 14);
-        faulty(TextEdges::three, Bench::work, "again 1[;];", 1, 8);
-        faulty(TextEdges::three, Bench::work, "again 1[breath;;];", 1, 15);
-        faulty(TextEdges::three, Bench::work, "again 1[breath;]", 1, 16);
-        faulty(TextEdges::three, Bench::work, "again 1[breath;]breath;", 1, 16);
-        faulty(TextEdges::three, Bench::work, "again 1[breath;", 1, 15);
-        faulty(TextEdges::three, Bench::work, "again 0[blow 9 1;];", 2, 13);
-        faulty(TextEdges::three, Bench::work, "breath;];", 1, 7);
+        number(Edge::three, Bench::work, "again ", 0, 30, "[breath;];");
+        right(Edge::three, Bench::work, "again 0[breath;];", 0);
+        right(Edge::three, Bench::work, "again 1[breath;];", 1);
+        right(Edge::three, Bench::work, "again 30[breath;];", 30);
+        right(Edge::three, Bench::work, "again 30[];breath;", 1);
+        right(Edge::three, Bench::work, "again 2[breath;again 3[breath;];breath;];breath;", 11);
+        faulty(Edge::three, Bench::work, "again[breath;];", 1, 5);
+        faulty(Edge::three, Bench::work, "again 1 breath;", 1, 8);
+        faulty(Edge::three, Bench::work, "again 1(breath;);", 1, 7);
+        faulty(Edge::three, Bench::work, "again 1[breath];", 1, 14);
+        faulty(Edge::three, Bench::work, "again 1[;];", 1, 8);
+        faulty(Edge::three, Bench::work, "again 1[breath;;];", 1, 15);
+        faulty(Edge::three, Bench::work, "again 1[breath;]", 1, 16);
+        faulty(Edge::three, Bench::work, "again 1[breath;]breath;", 1, 16);
+        faulty(Edge::three, Bench::work, "again 1[breath;", 1, 15);
+        faulty(Edge::three, Bench::work, "again 0[blow 9 1;];", 2, 13);
+        faulty(Edge::three, Bench::work, "breath;];", 1, 7);
     }
 
     // ---- BOOK
@@ -457,10 +453,10 @@ final class TextEdges extends Edge {
 
     private static void bookText() {
         says(T, "A BOOK is one of up to 60 bytes: { V T \";\" }, no V twice:");
-        right(TextEdges::three, Bench::book, "", 0);
-        right(TextEdges::three, Bench::book, "  ", 0);
-        right(TextEdges::three, Bench::book, " ".repeat(56) + "0 5;", 1);
-        faulty(TextEdges::three, Bench::book, " ".repeat(57) + "0 5", 1, 60);
+        right(Edge::three, Bench::book, "", 0);
+        right(Edge::three, Bench::book, "  ", 0);
+        right(Edge::three, Bench::book, " ".repeat(56) + "0 5;", 1);
+        faulty(Edge::three, Bench::book, " ".repeat(57) + "0 5", 1, 60);
         Make longer = () -> {
             BubbleLeases x = three();
             Bench.feed(x, " ".repeat(61));
@@ -473,18 +469,18 @@ final class TextEdges extends Edge {
         for (int v = 0; v < 8; v++) {
             faulty(TextEdges::eight, Bench::book, all + v + " 5;", 2, 32);
         }
-        faulty(TextEdges::three, Bench::book, "2 1;2 1;", 2, 4);
-        faulty(TextEdges::three, Bench::book, "2 1;02 1;", 2, 4);
-        faulty(TextEdges::three, Bench::book, "2;", 1, 1);
-        faulty(TextEdges::three, Bench::book, "2 1 1;", 1, 4);
-        faulty(TextEdges::three, Bench::book, "2 1", 1, 3);
-        faulty(TextEdges::three, Bench::book, ";", 1, 0);
-        faulty(TextEdges::three, Bench::book, "2 1;;", 1, 4);
+        faulty(Edge::three, Bench::book, "2 1;2 1;", 2, 4);
+        faulty(Edge::three, Bench::book, "2 1;02 1;", 2, 4);
+        faulty(Edge::three, Bench::book, "2;", 1, 1);
+        faulty(Edge::three, Bench::book, "2 1 1;", 1, 4);
+        faulty(Edge::three, Bench::book, "2 1", 1, 3);
+        faulty(Edge::three, Bench::book, ";", 1, 0);
+        faulty(Edge::three, Bench::book, "2 1;;", 1, 4);
 
         says(T, "VIEW V is had by TENANT T (0 to 4, told or not), or by none (5).");
-        number(TextEdges::three, Bench::book, "", 0, 3, " 5;");
+        number(Edge::three, Bench::book, "", 0, 3, " 5;");
         number(TextEdges::eight, Bench::book, "", 0, 7, " 5;");
-        number(TextEdges::three, Bench::book, "0 ", 0, 5, ";");
+        number(Edge::three, Bench::book, "0 ", 0, 5, ";");
         number(TextEdges::eight, Bench::book, "0 ", 0, 5, ";");
         faulty(Edge::fresh, Bench::book, "0 5;", 2, 0);
     }

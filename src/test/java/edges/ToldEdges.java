@@ -147,8 +147,8 @@ final class ToldEdges extends Edge {
             due("burst", after("tenant 9 5;", "blow 0 1;west 6;").bubble(0, what), NONE);
             due("sold", after("tenant 9 5;tenant 9 5;", "blow 0 1;sell 0 1 0;").bubble(0, what), NONE);
         }
-        wrong("bubble(0, 5) of one who has none", () -> at(Bench.CORNER), v -> v.bubble(0, 5));
-        wrong("bubble(0, -1) of one who has none", () -> at(Bench.CORNER), v -> v.bubble(0, -1));
+        wrong("bubble(0, 5) of one who has none", Edge::three, v -> v.bubble(0, 5));
+        wrong("bubble(0, -1) of one who has none", Edge::three, v -> v.bubble(0, -1));
     }
 
     private static void promise26() {

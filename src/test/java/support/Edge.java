@@ -32,6 +32,9 @@ public abstract class Edge {
     protected static final String FULL = "view 50 60;".repeat(8) + "tenant 99 50;".repeat(5);
     protected static final String FULL_WORK = "blow 0 1;blow 1 1;blow 2 1;blow 3 1;blow 4 1;";
 
+    /** A hundred BREATHS. */
+    protected static final String HUNDRED = "again 10[again 10[breath;];];";
+
     private static Doc doc = null;
     private static String sentence = null;
     private static int checksAhead = 0;
@@ -78,6 +81,11 @@ public abstract class Edge {
         BubbleLeases x = new BubbleLeases();
         Bench.corner(x, corner);
         return x;
+    }
+
+    /** Three TENANTS, four VIEWS. */
+    protected static BubbleLeases three() {
+        return at(Bench.CORNER);
     }
 
     protected static BubbleLeases after(String corner, String... works) {
