@@ -1366,7 +1366,7 @@ public final class BubbleLeases {
         }
 
         /** Does the STEPS from one on, ahead of another; of the text that was read last, and once only. */
-        void performFrom(Sky sky, int from, int to, int open) {
+        private void performFrom(Sky sky, int from, int to, int open) {
             for (int i = from; i < to && begun < BEGUN_MOST; i++) {
                 begun++;
                 if (steps[i * WIDTH] == AGAIN) {
